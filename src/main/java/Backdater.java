@@ -473,11 +473,15 @@ public final class Backdater {
     }
 
     private int dayBehindSegmentFrom(int start) {
-      int day = start;
-      while (isDay(day) && isDay(start) && rates[day] == rates[start]) {
-        day++;
+      if (!isDay(start)) {
+        return start;
       }
-      return day;
+      for (int day = start + 1; day < DAYS; day++) {
+        if (rates[day] != rates[start]) {
+          return day;
+        }
+      }
+      return DAYS;
     }
 
     private int chargeUpTo(int day) {

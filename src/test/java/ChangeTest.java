@@ -1,7 +1,5 @@
 /** Promises 6 to 12: change, add, cancel, reinstate, takeBack, changes, laidAnew. */
 public final class ChangeTest {
-  private static final int[] NO_DAYS = {-1, 365, Integer.MIN_VALUE, Integer.MAX_VALUE};
-
   public static void main(String[] args) {
     changeSetsAField();
     addAdds();
@@ -11,11 +9,6 @@ public final class ChangeTest {
     takeBackRefuses();
     laidAnewCounts();
     laidAnewIsAsKnownToday();
-    changeRefuses();
-    addRefuses();
-    coverRefuses();
-    refusalsChangeNothing();
-    changeLimit();
     Expect.end("ChangeTest");
   }
 
@@ -178,101 +171,5 @@ public final class ChangeTest {
     Expect.due("of a change that was taken back itself", 1, () -> x.laidAnew(2));
     x.takeBack(1);
     Expect.due("none known", 0, () -> x.laidAnew(2));
-  }
-
-  private static void changeRefuses() {
-    Backdater x = new Backdater();
-    x.open(1);
-    for (int none : new int[] {-1, 1, 4, Integer.MIN_VALUE, Integer.MAX_VALUE}) {
-      Expect.dueIndex("change of no policy", () -> x.change(none, 0, 0, 0));
-      Expect.dueIndex("no policy goes first", () -> x.change(none, 0, -1, -1));
-    }
-    for (int none : new int[] {-1, 3, Integer.MIN_VALUE, Integer.MAX_VALUE}) {
-      Expect.dueIndex("change of no field", () -> x.change(0, none, 0, 0));
-      Expect.dueIndex("no field goes first", () -> x.change(0, none, 365, 21));
-    }
-    for (int from : NO_DAYS) {
-      Expect.dueArgument("change from " + from, () -> x.change(0, 0, from, 0));
-    }
-    for (int value : new int[] {-1, 21, Integer.MIN_VALUE, Integer.MAX_VALUE}) {
-      Expect.dueArgument("change to " + value, () -> x.change(0, 0, 0, value));
-    }
-    Expect.due("no change was told", 0, x::changes);
-  }
-
-  private static void addRefuses() {
-    Backdater x = new Backdater();
-    x.open(1);
-    for (int none : new int[] {-1, 1, 4, Integer.MIN_VALUE, Integer.MAX_VALUE}) {
-      Expect.dueIndex("add of no policy", () -> x.add(none, 0, 0, 0));
-      Expect.dueIndex("no policy goes first", () -> x.add(none, 0, -1, 21));
-    }
-    for (int none : new int[] {-1, 3, Integer.MIN_VALUE, Integer.MAX_VALUE}) {
-      Expect.dueIndex("add of no field", () -> x.add(0, none, 0, 0));
-      Expect.dueIndex("no field goes first", () -> x.add(0, none, 365, 21));
-    }
-    for (int from : NO_DAYS) {
-      Expect.dueArgument("add from " + from, () -> x.add(0, 0, from, 0));
-    }
-    for (int number : new int[] {-21, 21, Integer.MIN_VALUE, Integer.MAX_VALUE}) {
-      Expect.dueArgument("add " + number, () -> x.add(0, 0, 0, number));
-    }
-    Expect.due("no change was told", 0, x::changes);
-  }
-
-  private static void coverRefuses() {
-    Backdater x = new Backdater();
-    x.open(1);
-    for (int none : new int[] {-1, 1, 4, Integer.MIN_VALUE, Integer.MAX_VALUE}) {
-      Expect.dueIndex("cancel of no policy", () -> x.cancel(none, 0));
-      Expect.dueIndex("reinstate of no policy", () -> x.reinstate(none, 0));
-      Expect.dueIndex("no policy goes first", () -> x.cancel(none, -1));
-      Expect.dueIndex("no policy goes first", () -> x.reinstate(none, 365));
-    }
-    for (int from : NO_DAYS) {
-      Expect.dueArgument("cancel from " + from, () -> x.cancel(0, from));
-      Expect.dueArgument("reinstate from " + from, () -> x.reinstate(0, from));
-    }
-    Expect.due("no change was told", 0, x::changes);
-    Expect.due("nothing was cancelled", true, () -> x.isCovered(0, 364, 0));
-  }
-
-  private static void refusalsChangeNothing() {
-    Backdater x = new Backdater();
-    x.open(365);
-    x.change(0, 0, 10, 5);
-    Expect.dueArgument("change", () -> x.change(0, 0, 10, 21));
-    Expect.dueArgument("add", () -> x.add(0, 0, 10, -21));
-    Expect.dueIndex("cancel", () -> x.cancel(1, 10));
-    Expect.dueArgument("cancel", () -> x.cancel(0, 365));
-    Expect.dueIndex("takeBack", () -> x.takeBack(1));
-    Expect.due("changes", 1, x::changes);
-    Expect.due("value", 5, () -> x.value(0, 0, 10, 0));
-    Expect.due("segments", 2, () -> x.segments(0, 0));
-    Expect.due("the next number", 1, () -> x.reinstate(0, 0));
-  }
-
-  private static void changeLimit() {
-    Backdater x = new Backdater();
-    x.open(1);
-    x.open(1);
-    for (int i = 0; i < 60; i++) {
-      int number = i;
-      Expect.due("change", number, () -> x.add(number % 2, 0, 364 - number, 1));
-    }
-    x.takeBack(59);
-    Expect.dueState("a 61st change", () -> x.change(0, 0, 0, 0));
-    Expect.dueState("a 61st add", () -> x.add(0, 0, 0, 1));
-    Expect.dueState("a 61st cancel", () -> x.cancel(0, 0));
-    Expect.dueState("a 61st reinstate", () -> x.reinstate(0, 0));
-    Expect.dueArgument("a wrong value goes ahead", () -> x.change(0, 0, 0, 21));
-    Expect.dueArgument("a wrong number goes ahead", () -> x.add(0, 0, 365, 1));
-    Expect.dueArgument("a wrong day goes ahead", () -> x.cancel(0, -1));
-    Expect.dueIndex("no policy goes ahead", () -> x.reinstate(2, 0));
-    Expect.due("changes", 60, x::changes);
-    Expect.due("they changed nothing", true, () -> x.isCovered(0, 0, 0));
-    Expect.due("thirty were laid in, one taken back", 20, () -> x.value(0, 0, 364, 0));
-    Expect.due("the last of policy 0", 29, () -> x.laidAnew(58));
-    Expect.due("the last of policy 1", 29, () -> x.laidAnew(59));
   }
 }

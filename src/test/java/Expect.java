@@ -4,6 +4,9 @@ final class Expect {
     Object answer();
   }
 
+  /** One fault can make thousands of answers wrong; the first ones tell where to look. */
+  private static final int MOST_TOLD = 20;
+
   private static int wrong = 0;
   private static int asked = 0;
 
@@ -15,7 +18,9 @@ final class Expect {
     Object got = outcome(made);
     if (!want.equals(got)) {
       wrong++;
-      System.out.println(call + " answered " + got + ", due is " + want);
+      if (wrong <= MOST_TOLD) {
+        System.out.println(call + " answered " + got + ", due is " + want);
+      }
     }
   }
 
@@ -36,8 +41,15 @@ final class Expect {
     try {
       return made.answer();
     } catch (RuntimeException thrown) {
-      return thrown.getClass();
+      return isThrownByStatement(thrown) ? thrown.getClass() : "what the machine threw: " + thrown;
     }
+  }
+
+  /** A list of the library throws the very class that the document names; then its own frame is on top. */
+  private static boolean isThrownByStatement(RuntimeException thrown) {
+    StackTraceElement[] frames = thrown.getStackTrace();
+    return frames.length > 0 && !frames[0].getClassName().startsWith("java.")
+        && !frames[0].getClassName().startsWith("jdk.");
   }
 
   static void end(String test) {

@@ -11,6 +11,8 @@ import java.util.HashSet;
 import java.util.List;
 import java.util.Set;
 import java.util.TreeSet;
+import java.util.regex.Matcher;
+import java.util.regex.Pattern;
 import java.util.stream.Collectors;
 
 /** The public face of the document, and what of LANGUAGE.md can be seen without reading the code. */
@@ -18,8 +20,17 @@ public final class FaceTest {
   private static final String INDEX = "IndexOutOfBoundsException";
   private static final String ARGUMENT = "IllegalArgumentException";
   private static final String STATE = "IllegalStateException";
-  private static final List<String> FORBIDDEN = List.of("->", "::", "catch", "finally", "synchronized",
-      "assert ", "Exact", "@", "static {", "hashCode", "toString", "equals", "Random", "System.", "Thread");
+  private static final Set<String> LIBRARY = Set.of("java.util.ArrayList", "java.util.Arrays", "java.util.List",
+      "java.util.Iterator", "java.util.NoSuchElementException");
+  /** Comments, texts and signs, in which every word may stand. */
+  private static final String NOT_CODE =
+      "(?s)/\\*.*?\\*/|//[^\\n]*|\"(?:\\\\.|[^\"\\\\])*\"|'(?:\\\\.|[^'\\\\])+'";
+  private static final List<String> FORBIDDEN = List.of("::", "\\bfinally\\b", "\\bsynchronized\\b",
+      "\\bassert\\b", "\\w+Exact\\b", "\\bstatic\\s*\\{", "\\bhashCode\\b", "\\bgetMessage\\b", "\\bThread\\b",
+      "\\bSystem\\.(?!arraycopy\\b)", "\\brandom\\b", "\\bRandom\\b", "\\bextends\\s+\\w*Exception\\b",
+      "\\btry\\s*\\(", "(?m)^(?!.*\\b(case|default)\\b).*->",
+      "\\b(NullPointer|ArrayIndexOutOfBounds|ClassCast|NegativeArraySize|ArrayStore)Exception\\b",
+      "\\b(Throwable|Error|Exception)\\b");
 
   public static void main(String[] args) throws IOException {
     Set<String> face = new TreeSet<>(List.of(
@@ -56,10 +67,28 @@ public final class FaceTest {
     Expect.due("no private method bears a public one's name", false, () -> hasNameTwice(program));
     String source = Files.readString(Path.of("src/main/java/Backdater.java"), StandardCharsets.UTF_8);
     Expect.due("signs are 1 to 127", true, () -> source.chars().allMatch(sign -> sign > 0 && sign < 128));
+    String code = source.replaceAll(NOT_CODE, " ");
+    Expect.due("a package line", false, () -> hasIn(code, "(?m)^\\s*package\\b"));
+    Expect.due("imports beyond the library of rule 4", Set.of(), () -> strangeImports(code));
     for (String word : FORBIDDEN) {
-      Expect.due("the source has " + word, false, () -> source.contains(word));
+      Expect.due("the code has " + word, false, () -> hasIn(code, word));
     }
     Expect.end("FaceTest");
+  }
+
+  private static boolean hasIn(String code, String word) {
+    return Pattern.compile(word).matcher(code).find();
+  }
+
+  private static Set<String> strangeImports(String code) {
+    Set<String> found = new TreeSet<>();
+    Matcher line = Pattern.compile("(?m)^\\s*import\\s+([^;]+);").matcher(code);
+    while (line.find()) {
+      if (!LIBRARY.contains(line.group(1))) {
+        found.add(line.group(1));
+      }
+    }
+    return found;
   }
 
   private static Set<String> openMethods(Class<?> program) {

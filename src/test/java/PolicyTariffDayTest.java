@@ -1,41 +1,22 @@
 /** Promises 1 to 5: a new object, open, setWeight, pass, today. */
 public final class PolicyTariffDayTest {
   public static void main(String[] args) {
-    newObject();
-    openNumbersAndLimit();
-    openRefuses();
+    openNumbers();
     weightsHoldFromTheirDays();
     weightsOfTheSameDayAndField();
     weightsAreAsIfAlwaysKnown();
-    setWeightRefuses();
-    tariffLimit();
     passLetsDaysPass();
-    passRefuses();
     objectsAreApart();
     Expect.end("PolicyTariffDayTest");
   }
 
-  private static void newObject() {
-    Backdater x = new Backdater();
-    Expect.due("NONE", -1, () -> Backdater.NONE);
-    Expect.due("today of a new object", 0, x::today);
-    Expect.due("changes of a new object", 0, x::changes);
-    Expect.dueIndex("billed(0) of a new object", () -> x.billed(0));
-    Expect.dueIndex("rate of a new object", () -> x.rate(0, 0, 0));
-    Expect.dueIndex("laidAnew of a new object", () -> x.laidAnew(0));
-    Expect.due("the first policy's number", 0, () -> x.open(7));
-    Expect.due("the first tariff's count", 1, () -> x.setWeight(0, 1, 0));
-  }
-
-  private static void openNumbersAndLimit() {
+  private static void openNumbers() {
     Backdater x = new Backdater();
     int[] bases = {1, 1000, 365, 2};
     for (int i = 0; i < 4; i++) {
       int number = i;
       Expect.due("open", number, () -> x.open(bases[number]));
     }
-    Expect.dueState("a fifth open", () -> x.open(5));
-    Expect.dueArgument("a fifth open with a wrong base", () -> x.open(0));
     for (int i = 0; i < 4; i++) {
       int number = i;
       Expect.due("rate of base", bases[number], () -> x.rate(number, 364, 0));
@@ -46,16 +27,6 @@ public final class PolicyTariffDayTest {
         Expect.due("value at first", 0, () -> x.value(number, asked, 0, 0));
       }
     }
-    Expect.dueIndex("no fifth policy", () -> x.rate(4, 0, 0));
-  }
-
-  private static void openRefuses() {
-    Backdater x = new Backdater();
-    for (int base : new int[] {0, -1, 1001, Integer.MIN_VALUE, Integer.MAX_VALUE}) {
-      Expect.dueArgument("open " + base, () -> x.open(base));
-    }
-    Expect.dueIndex("nothing was opened", () -> x.billed(0));
-    Expect.due("open after refusals", 0, () -> x.open(1));
   }
 
   private static void weightsHoldFromTheirDays() {
@@ -103,39 +74,6 @@ public final class PolicyTariffDayTest {
     Expect.due("and in the premium", 439, () -> x.premium(0, 0));
   }
 
-  private static void setWeightRefuses() {
-    Backdater x = new Backdater();
-    x.open(1);
-    x.change(0, 0, 0, 1);
-    for (int field : new int[] {-1, 3, Integer.MIN_VALUE, Integer.MAX_VALUE}) {
-      Expect.dueIndex("setWeight of no field", () -> x.setWeight(field, 5, 0));
-      Expect.dueIndex("no field goes first", () -> x.setWeight(field, -1, -1));
-    }
-    for (int weight : new int[] {-1, 101, Integer.MIN_VALUE, Integer.MAX_VALUE}) {
-      Expect.dueArgument("setWeight with weight " + weight, () -> x.setWeight(0, weight, 0));
-    }
-    for (int from : new int[] {-1, 365, Integer.MIN_VALUE, Integer.MAX_VALUE}) {
-      Expect.dueArgument("setWeight from " + from, () -> x.setWeight(0, 5, from));
-    }
-    Expect.due("no weight was set", 2, () -> x.rate(0, 0, 0));
-    Expect.due("nor counted", 1, () -> x.setWeight(0, 100, 0));
-  }
-
-  private static void tariffLimit() {
-    Backdater x = new Backdater();
-    x.open(1);
-    x.change(0, 2, 0, 1);
-    for (int i = 1; i <= 20; i++) {
-      int count = i;
-      Expect.due("tariffs", count, () -> x.setWeight(count % 2, 50, count));
-    }
-    Expect.dueState("a 21st tariff", () -> x.setWeight(2, 50, 0));
-    Expect.dueIndex("a 21st of no field", () -> x.setWeight(3, 50, 0));
-    Expect.dueArgument("a 21st with a wrong weight", () -> x.setWeight(2, 101, 0));
-    Expect.dueArgument("a 21st from a wrong day", () -> x.setWeight(2, 50, 365));
-    Expect.due("the 21st changed nothing", 2, () -> x.rate(0, 0, 0));
-  }
-
   private static void passLetsDaysPass() {
     Backdater x = new Backdater();
     Expect.due("pass 1", 1, () -> x.pass(1));
@@ -146,15 +84,6 @@ public final class PolicyTariffDayTest {
       x.pass(100);
     }
     Expect.due("today goes on behind the day 364", 1101, x::today);
-  }
-
-  private static void passRefuses() {
-    Backdater x = new Backdater();
-    x.pass(3);
-    for (int days : new int[] {0, -1, 101, Integer.MIN_VALUE, Integer.MAX_VALUE}) {
-      Expect.dueArgument("pass " + days, () -> x.pass(days));
-    }
-    Expect.due("no day passed", 3, x::today);
   }
 
   private static void objectsAreApart() {

@@ -4,13 +4,10 @@ public final class SegmentBillTest {
     oneSegment();
     segmentsFollowTheRate();
     segmentsAcrossNoCover();
-    noCoverAtAll();
     tariffsPartSegments();
     roundingsAddUp();
     premiumsAsKnown();
     billsFollowThePremium();
-    refusals();
-    billRefusals();
     Expect.end("SegmentBillTest");
   }
 
@@ -65,19 +62,6 @@ public final class SegmentBillTest {
     x.cancel(0, 364);
     Expect.due("the last day without cover", 2, () -> x.segments(0, 0));
     Expect.due("ends ahead of it", 41, () -> x.segmentPremium(0, 1, 0));
-  }
-
-  private static void noCoverAtAll() {
-    Backdater x = new Backdater();
-    x.open(1000);
-    x.cancel(0, 0);
-    Expect.due("segments", 0, () -> x.segments(0, 0));
-    Expect.due("premium", 0, () -> x.premium(0, 0));
-    Expect.due("by days", 0, () -> x.premiumByDays(0, 0));
-    Expect.dueIndex("no first segment", () -> x.segmentStart(0, 0, 0));
-    Expect.dueIndex("no first segment", () -> x.segmentPremium(0, 0, 0));
-    Expect.dueIndex("NONE is no segment", () -> x.segmentStart(0, Backdater.NONE, 0));
-    Expect.due("bill", 0, () -> x.bill(0));
   }
 
   private static void tariffsPartSegments() {
@@ -160,52 +144,5 @@ public final class SegmentBillTest {
     x.cancel(0, 0);
     Expect.due("all goes back", -365, () -> x.bill(0));
     Expect.due("billed", 0, () -> x.billed(0));
-  }
-
-  private static void refusals() {
-    Backdater x = new Backdater();
-    x.open(1);
-    x.pass(5);
-    for (int none : new int[] {-1, 1, 4, Integer.MIN_VALUE, Integer.MAX_VALUE}) {
-      Expect.dueIndex("segments of no policy", () -> x.segments(none, 0));
-      Expect.dueIndex("segmentStart of no policy", () -> x.segmentStart(none, 0, 0));
-      Expect.dueIndex("segmentPremium of no policy", () -> x.segmentPremium(none, 0, 0));
-      Expect.dueIndex("premium of no policy", () -> x.premium(none, 0));
-      Expect.dueIndex("premiumByDays of no policy", () -> x.premiumByDays(none, 0));
-      Expect.dueIndex("segments: no policy goes first", () -> x.segments(none, 6));
-      Expect.dueIndex("premium: no policy goes first", () -> x.premium(none, -1));
-      Expect.dueIndex("premiumByDays: no policy goes first", () -> x.premiumByDays(none, 6));
-      Expect.dueArgument("segmentStart: known goes first", () -> x.segmentStart(none, 0, 6));
-      Expect.dueArgument("segmentPremium: known goes first", () -> x.segmentPremium(none, 0, -1));
-    }
-    for (int none : new int[] {-1, 1, 365, Integer.MIN_VALUE, Integer.MAX_VALUE}) {
-      Expect.dueIndex("segmentStart of no segment", () -> x.segmentStart(0, none, 0));
-      Expect.dueIndex("segmentPremium of no segment", () -> x.segmentPremium(0, none, 0));
-      Expect.dueArgument("segmentStart: known goes first", () -> x.segmentStart(0, none, -1));
-      Expect.dueArgument("segmentPremium: known goes first", () -> x.segmentPremium(0, none, 6));
-    }
-    for (int known : new int[] {-1, 6, Integer.MIN_VALUE, Integer.MAX_VALUE}) {
-      Expect.dueArgument("segments known on " + known, () -> x.segments(0, known));
-      Expect.dueArgument("segmentStart known on " + known, () -> x.segmentStart(0, 0, known));
-      Expect.dueArgument("segmentPremium known on " + known, () -> x.segmentPremium(0, 0, known));
-      Expect.dueArgument("premium known on " + known, () -> x.premium(0, known));
-      Expect.dueArgument("premiumByDays known on " + known, () -> x.premiumByDays(0, known));
-    }
-    Expect.due("segments known today", 1, () -> x.segments(0, 5));
-    Expect.due("segmentStart known today", 0, () -> x.segmentStart(0, 0, 5));
-    Expect.due("segmentPremium known today", 1, () -> x.segmentPremium(0, 0, 5));
-    Expect.due("premium known today", 1, () -> x.premium(0, 5));
-    Expect.due("premiumByDays known today", 1, () -> x.premiumByDays(0, 5));
-  }
-
-  private static void billRefusals() {
-    Backdater x = new Backdater();
-    x.open(7);
-    for (int none : new int[] {-1, 1, 4, Integer.MIN_VALUE, Integer.MAX_VALUE}) {
-      Expect.dueIndex("bill of no policy", () -> x.bill(none));
-      Expect.dueIndex("billed of no policy", () -> x.billed(none));
-    }
-    Expect.due("nothing was billed", 0, () -> x.billed(0));
-    Expect.due("bill", 7, () -> x.bill(0));
   }
 }

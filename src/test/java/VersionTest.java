@@ -4,8 +4,6 @@ public final class VersionTest {
     versionsFollowFromTwoKindsOfDays();
     orderIsByDayThenByNumber();
     rateCountsAllFields();
-    highestRate();
-    refusals();
     Expect.end("VersionTest");
   }
 
@@ -67,48 +65,5 @@ public final class VersionTest {
     x.cancel(0, 364);
     Expect.due("without cover", 0, () -> x.rate(0, 364, 0));
     Expect.due("with cover", 240, () -> x.rate(0, 363, 0));
-  }
-
-  private static void highestRate() {
-    Backdater x = new Backdater();
-    x.open(1000);
-    for (int field = 0; field < 3; field++) {
-      x.change(0, field, 0, 20);
-      x.setWeight(field, 100, 0);
-    }
-    Expect.due("the highest rate", 7000, () -> x.rate(0, 364, 0));
-    Expect.due("the highest premium", 7000, () -> x.premium(0, 0));
-    Expect.due("the same by days", 7000, () -> x.premiumByDays(0, 0));
-  }
-
-  private static void refusals() {
-    Backdater x = new Backdater();
-    x.open(1);
-    x.pass(5);
-    for (int none : new int[] {-1, 1, 4, Integer.MIN_VALUE, Integer.MAX_VALUE}) {
-      Expect.dueIndex("value of no policy", () -> x.value(none, 0, 0, 0));
-      Expect.dueIndex("isCovered of no policy", () -> x.isCovered(none, 0, 0));
-      Expect.dueIndex("rate of no policy", () -> x.rate(none, 0, 0));
-      Expect.dueIndex("value: no policy goes first", () -> x.value(none, 0, 365, 6));
-      Expect.dueIndex("isCovered: no policy goes first", () -> x.isCovered(none, -1, -1));
-      Expect.dueIndex("rate: no policy goes first", () -> x.rate(none, 365, 6));
-    }
-    for (int none : new int[] {-1, 3, Integer.MIN_VALUE, Integer.MAX_VALUE}) {
-      Expect.dueIndex("value of no field", () -> x.value(0, none, 0, 0));
-      Expect.dueIndex("value: no field goes first", () -> x.value(0, none, -1, 6));
-    }
-    for (int day : new int[] {-1, 365, Integer.MIN_VALUE, Integer.MAX_VALUE}) {
-      Expect.dueArgument("value on " + day, () -> x.value(0, 0, day, 0));
-      Expect.dueArgument("isCovered on " + day, () -> x.isCovered(0, day, 0));
-      Expect.dueArgument("rate on " + day, () -> x.rate(0, day, 0));
-    }
-    for (int known : new int[] {-1, 6, Integer.MIN_VALUE, Integer.MAX_VALUE}) {
-      Expect.dueArgument("value known on " + known, () -> x.value(0, 0, 0, known));
-      Expect.dueArgument("isCovered known on " + known, () -> x.isCovered(0, 0, known));
-      Expect.dueArgument("rate known on " + known, () -> x.rate(0, 0, known));
-    }
-    Expect.due("value known today", 0, () -> x.value(0, 0, 364, 5));
-    Expect.due("isCovered known today", true, () -> x.isCovered(0, 364, 5));
-    Expect.due("rate known today", 1, () -> x.rate(0, 364, 5));
   }
 }
